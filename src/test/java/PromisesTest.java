@@ -28,6 +28,7 @@ public final class PromisesTest {
         ask();
         images();
         about();
+        fullHouse();
         C.finish();
     }
 
@@ -363,6 +364,14 @@ public final class PromisesTest {
         NightLights none = new NightLights();
         C.due("without MEN", none.night(), 0);
         C.due("the night", none.about(4), 1);
+        for (int i = 1; i < 999; i++) {
+            none.night();
+        }
+        C.due("999 of them", none.about(4), 999);
+        C.due("behind 999 of them", none.night(), -1);
+        C.due("doing nothing", none.about(4), 999);
+        none.undo();
+        C.due("998 of them", none.night(), 0);
     }
 
     private static void acts() {
@@ -514,6 +523,10 @@ public final class PromisesTest {
         later.send(0, 0);
         C.due("calm() behind 61", later.calm(), -1);
         C.due("calm() without MEN", new NightLights().calm(), 0);
+        NightLights quiet = Check.told("man a at 0 fear 12 age 1;boy b at 0 calm 1;help (night>0)*13;pipes 100;");
+        quiet.send(0, 0);
+        C.due("calm(), no pipe knocks", quiet.calm(), 1);
+        C.due("asleep(2), no pipe knocks", quiet.asleep(2), 1);
     }
 
     private static void sending() {
@@ -539,6 +552,12 @@ public final class PromisesTest {
         NightLights more = Check.told("man a at 0 fear 1 age 1;man b at 1 fear 1 age 1;boy x at 1 calm 5;");
         C.due("most HELP of like ones", more.sending(1), 5);
         C.lying("more", more, -1, 0);
+        NightLights lit = Check.told("man a at 0 fear 3 age 1 oil 1 lit;man b at 0 fear 5 age 1;boy x at 0 calm 5;");
+        C.due("who SLEEPS by his light", lit.sending(0), 2);
+        C.lying("lit", lit, -1, 0);
+        NightLights bold = Check.told("man a at 0 fear 0 age 1;man b at 0 fear 5 age 1;boy x at 0 calm 5;");
+        C.due("who SLEEPS by himself", bold.sending(0), 2);
+        C.lying("bold", bold, -1, 0);
         NightLights zero = Check.told("man a at 0 fear 9 age 1;boy x at 9 calm 5;boy y at 9 calm 5;");
         C.due("a BOY goes before none", zero.sending(1), 0);
         C.lying("zero", zero, 0);
@@ -629,6 +648,13 @@ public final class PromisesTest {
         // a asks x (25 of x, 14 of y); b asks x, who is nearer: a is refused, asks y; c asks x, y and has none.
         C.due("a chain", chain.stable(), 2);
         C.lying("a chain", chain, 1, 0, -1);
+        NightLights back = Check.told("man a at 15 fear 9 age 1;man b at 25 fear 9 age 1;man c at 10 fear 9 age 1;"
+                + "boy x at 10 calm 30;boy y at 20 calm 22;");
+        // x leaves a for c; a then asks y, who has b as FAR from him: the lesser number stays.
+        C.due("as FAR, the lesser number", back.stable(), 2);
+        C.lying("as FAR, the lesser number", back, 1, -1, 0);
+        NightLights one = Check.told("man a at 0 fear 9 age 1;boy x at 0 calm 1;");
+        C.due("HELP of 1", one.stable(), 1);
         C.due("without MEN", new NightLights().stable(), 0);
     }
 
@@ -662,6 +688,9 @@ public final class PromisesTest {
         w.send(0, 0);
         C.due("the third night", w.burning(0, 3, 0), 1);
         C.due("the third night", w.burning(0, 3, 1), 4);
+        NightLights v = Check.told("man a at 0 fear 2 age 1 oil 1;");
+        C.due("one of two nights", v.burning(0, 2, 0), 1);
+        C.due("the least set", v.burning(0, 2, 1), 1);
         C.due("need(0)", x.need(0), 0);
         C.due("need(7)", x.need(7), 14);
         C.due("need(60)", x.need(60), 120);
@@ -697,6 +726,9 @@ public final class PromisesTest {
         NightLights end = Check.told("man a at 99 fear 5 age 1;boy x at 0 calm 9;");
         C.due("the last PLACE", end.home(0, 0), 99);
         C.due("HELP there", end.home(0, 1), 9);
+        NightLights same = Check.told("man a at 99 fear 5 age 1;boy x at 50 calm 9;help 7;");
+        C.due("of like ones the least", same.home(0, 0), 0);
+        C.due("HELP there", same.home(0, 1), 7);
         NightLights none = Check.told("boy x at 7 calm 9;");
         C.due("without MEN", none.home(0, 0), 0);
         C.due("without MEN", none.home(0, 1), 0);
@@ -775,6 +807,10 @@ public final class PromisesTest {
         C.due("of like ones the first", ring.trade(0), 0);
         C.due("of like ones the first", ring.trade(1), 1);
         C.due("one more", ring.trade(2), 1);
+        NightLights lit = Check.told("man a at 0 fear 8 age 1 oil 1 lit;man b at 20 fear 5 age 1;boy x at 20 calm 5;boy y at 0 calm 5;");
+        lit.send(0, 0);
+        lit.send(1, 1);
+        C.due("by his light, too", lit.trade(2), 2);
     }
 
     private static void sets() {
@@ -924,7 +960,7 @@ public final class PromisesTest {
         C.due("ask(1, 0)", x.ask(1, 0), 3);
         C.due("as known before", x.ask(0, -1), 1);
         NightLights y = Check.told("man a at 0 fear 9 age 1;");
-        y.seen(5, true);
+        y.seen(12, true);
         C.due("one is left", y.ask(1, 0), 1);
         C.due("the first NIGHT", y.ask(0, 0), 1);
     }
@@ -964,6 +1000,62 @@ public final class PromisesTest {
         C.due("to the image", x.about(4), 1);
         C.due("back(0)", x.back(0), 2);
         C.due("back(2) again", x.back(2), 1);
+    }
+
+    private static void fullHouse() {
+        C.part("six MEN and four BOYS");
+        StringBuilder lines = new StringBuilder("tank 99;");
+        for (char c : "abcdfg".toCharArray()) {
+            lines.append("man ").append(c).append(" at 99 fear 5 age 1 lit;");
+        }
+        for (char c : "abcd".toCharArray()) {
+            lines.append("boy ").append(c).append(" at 0 calm 5;");
+        }
+        NightLights x = Check.told(lines + "help calm;");
+        C.due("about(0)", x.about(0), 6);
+        C.due("about(1)", x.about(1), 4);
+        C.due("about(2)", x.about(2), 63);
+        C.due("dark()", x.dark(), 63);
+        C.due("glow()", x.glow(), 0);
+        C.due("idle()", x.idle(), 15);
+        C.due("timid()", x.timid(), 0);
+        C.due("blest()", x.blest(), -1);
+        C.due("nearest(3)", x.nearest(3), 0);
+        C.due("between(99, 99)", x.between(99, 99), 63);
+        C.due("sending(0)", x.sending(0), 4);
+        C.lying("sending(0)", x, 0, 1, 2, 3, -1, -1);
+        C.due("sending(1)", x.sending(1), 20);
+        C.due("stable()", x.stable(), 4);
+        C.lying("stable()", x, 0, 1, 2, 3, -1, -1);
+        C.due("jealous(0)", x.jealous(0), 24);
+        C.due("round(3)", x.round(3), 99);
+        C.lying("round(3)", x, 0, 1, 2, 3, 4, 5);
+        C.due("twelve(3, 98, 1)", x.twelve(3, 98, 1), 0);
+        C.due("twelve(3, 99, 1)", x.twelve(3, 99, 1), 63);
+        C.due("rivals(2, 3)", x.rivals(2, 3), 30);
+        C.lying("rivals(2, 3)", x, 0, 1);
+        C.due("home(3, 1)", x.home(3, 1), 30);
+        C.due("need(60)", x.need(60), 360);
+        C.due("calm()", x.calm(), -1);
+        C.due("law(5)", x.law(5), 0);
+        for (int boy = 0; boy < 4; boy++) {
+            C.due("send", x.send(boy, 5 - boy), 5);
+        }
+        C.due("sleepers()", x.sleepers(), 60);
+        C.due("trade(0)", x.trade(0), -1);
+        C.due("blest()", x.blest(), 2);
+        C.due("law(5)", x.law(5), 4);
+        C.due("night()", x.night(), 60);
+        C.due("fits(0)", x.fits(0), 41);
+        x.seen(1, false);
+        C.due("sure(0, 0)", x.sure(0, 0), 1);
+        C.due("pour(5, 20)", x.pour(5, 20), 20);
+        C.due("burning(5, 8, 0)", x.burning(5, 8, 0), 8);
+        C.due("burning(0, 8, 0)", x.burning(0, 8, 0), 0);
+        C.due("image(2)", x.image(2), 1);
+        C.due("undo()", x.undo(), true);
+        C.due("back(2)", x.back(2), 1);
+        C.due("man(5, 3)", x.man(5, 3), 20);
     }
 
     private static int[] all(NightLights x) {
