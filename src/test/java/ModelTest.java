@@ -23,6 +23,7 @@ public final class ModelTest {
         Check check = new Check();
         for (int run = 0; run < RUNS && check.wrong() < 20; run++) {
             new ModelTest(run, check).go();
+            new ModelTest(run, check).readSoups();
         }
         check.finish();
     }
@@ -38,6 +39,24 @@ public final class ModelTest {
             step();
             calls++;
         }
+    }
+
+    /** Texts that are hardly ever good: FAULTS alone are looked at. */
+    private void readSoups() {
+        for (int i = 0; i < 40; i++) {
+            tell(chance.nextBoolean() ? soup() : "help " + soup());
+        }
+    }
+
+    private String soup() {
+        String[] bits = {"man", "a", "at", "1", "fear", "age", "oil", "lit", ";", "boy", "calm", "help", "tank", "pipes", "draw", "or",
+            "and", "not", "far", "light", "night", "(", ")", "<", ">", "=", "+", "-", "*", "/", "%", "99", "1000", "12345", "abcdefghi",
+            "B", "man b at 1 fear 2 age 3", "boy c at 4 calm 5", "calm-far", "(not fear)", "draw 9", "\t", "\n"};
+        StringBuilder text = new StringBuilder();
+        for (int n = upTo(12); n >= 0; n--) {
+            text.append(bits[chance.nextInt(bits.length)]).append(chance.nextInt(4) == 0 ? "" : " ");
+        }
+        return text.toString();
     }
 
     private void tell(String text) {
