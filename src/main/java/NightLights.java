@@ -367,7 +367,7 @@ public final class NightLights {
     /** Promise 29. */
     public int rivals(int boy, int other) {
         lying = 0;
-        if (boy == other || !isFree(boy) || !isFree(other) || menWithoutBoy() == 0) {
+        if (boy == other || !isFree(boy) || !isFree(other) || everyManHasOne()) {
             return NONE;
         }
         int rests = 0;
@@ -389,14 +389,13 @@ public final class NightLights {
         return told.hasBoy(boy) && now.manOf(boy) == NONE;
     }
 
-    private int menWithoutBoy() {
-        int set = 0;
+    private boolean everyManHasOne() {
         for (int man = 0; man < told.men; man++) {
             if (now.boys[man] == NONE) {
-                set |= 1 << man;
+                return false;
             }
         }
-        return set;
+        return true;
     }
 
     private boolean isRest(int boy, int other, int man, int others) {

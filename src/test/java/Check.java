@@ -1,7 +1,13 @@
 import java.nio.charset.StandardCharsets;
+import java.util.function.BooleanSupplier;
+import java.util.function.IntSupplier;
 
 /** Counts answers that are not as due, and puts texts on an object's TAPE. */
 final class Check {
+    /** Numbers that no call of the face takes for a BOY, a MAN, a what, an n, a PLACE, a BOX. */
+    static final int[] WILD = {-1, -2, -100, 1001, 65536, 16777216, Integer.MAX_VALUE, Integer.MAX_VALUE - 1,
+        Integer.MIN_VALUE, Integer.MIN_VALUE + 1};
+
     private int wrong;
     private int asked;
     private String part = "";
@@ -29,6 +35,57 @@ final class Check {
             due(call + ": lies(" + i + ")", x.lies(i), want[i]);
         }
         due(call + ": lies behind all", x.lies(want.length), -2);
+    }
+
+    /** The call answers so, and all that can be seen of the object is then as it was. */
+    void leaves(NightLights x, String call, IntSupplier made, int want) {
+        int[] before = outside(x);
+        due(call, made.getAsInt(), want);
+        int[] then = outside(x);
+        for (int i = 0; i < before.length; i++) {
+            due(call + " leaves what is seen (" + i + ")", then[i], before[i]);
+        }
+    }
+
+    void refuses(NightLights x, String call, IntSupplier made) {
+        leaves(x, call, made, NightLights.NONE);
+    }
+
+    void refusesSo(NightLights x, String call, BooleanSupplier made) {
+        leaves(x, call, () -> made.getAsBoolean() ? 1 : 0, 0);
+    }
+
+    /** All that calls tell that change nothing, not even what lies there. */
+    static int[] outside(NightLights x) {
+        int[] seen = new int[110];
+        int n = 0;
+        for (int what = 0; what <= 13; what++) {
+            seen[n++] = x.about(what);
+        }
+        for (int man = 0; man < 6; man++) {
+            for (int what = 0; what <= 6; what++) {
+                seen[n++] = x.man(man, what);
+            }
+            for (int boy = 0; boy < 4; boy++) {
+                seen[n++] = x.help(boy, man);
+            }
+        }
+        for (int boy = 0; boy < 4; boy++) {
+            for (int what = 0; what <= 2; what++) {
+                seen[n++] = x.boy(boy, what);
+            }
+        }
+        for (int i = 0; i <= 6; i++) {
+            seen[n++] = x.lies(i);
+        }
+        seen[n++] = x.fault(0);
+        seen[n++] = x.fault(1);
+        int time = x.about(9);
+        seen[n++] = x.fits(time);
+        seen[n++] = x.sure(0, time);
+        seen[n++] = x.sure(1, time);
+        seen[n++] = x.fits(time - 1);
+        return seen;
     }
 
     int wrong() {
