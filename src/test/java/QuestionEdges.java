@@ -422,6 +422,12 @@ final class QuestionEdges {
             c.due("four", six.stable(), 4);
             c.lying("four", six, -1, -1, 3, 2, 1, 0);
         }
+        // Each MAN asks each BOY: 24 times in all, and the last one is not refused.
+        NightLights most = Check.told("man a at 52 fear 1 age 13;man b at 88 fear 1 age 30;man c at 25 fear 1 age 44;man d at 98 fear 1 age 55;"
+                + "man f at 16 fear 1 age 81;man g at 92 fear 1 age 11;boy w at 93 calm 13;boy x at 97 calm 1;boy y at 13 calm 12;boy z at 51 calm 18;"
+                + "help age*calm%46+1;");
+        c.due("asked 24 times", most.stable(), 4);
+        c.lying("asked 24 times", most, 3, -1, -1, 1, 2, 0);
         Check.tell(six, "man a at 6 fear 9 age 1;boy x at 0 calm 20;");
         c.due("nobody refused him", six.stable(), 1);
         c.lying("nobody refused him", six, 0);
