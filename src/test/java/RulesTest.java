@@ -13,7 +13,7 @@ import java.util.regex.Pattern;
 import java.util.stream.Collectors;
 import java.util.stream.Stream;
 
-/** What of LANGUAGE.md can be read off the source and the compiled class. */
+/** The face as DOC.md has it, and what of LANGUAGE.md can be read off the source and the compiled class. */
 public final class RulesTest {
     private static final Check C = new Check();
     private static final String FACE = "feed end parish fault man boy help sleepers night send recall light snuff pour undo redo "
@@ -23,9 +23,11 @@ public final class RulesTest {
     public static void main(String[] args) throws Exception {
         String source = Files.readString(Path.of("src/main/java/NightLights.java"));
         face();
+        faceAsInTheDocument(Files.readString(Path.of("../shared/DOC.md")));
         names();
         words(source);
         objects(source);
+        lengths(source);
         C.finish();
     }
 
@@ -41,6 +43,46 @@ public final class RulesTest {
         C.due("methods", open(c.getDeclaredMethods()).equals(new TreeSet<>(Arrays.asList(FACE.split(" ")))), true);
         C.due("fields", open(c.getDeclaredFields()).equals(Set.of("NONE")), true);
         C.due("constructors", c.getDeclaredConstructors().length, 1);
+    }
+
+    /** Each line of the face as the document has it, types and all, and none beside. */
+    private static void faceAsInTheDocument(String document) {
+        C.part("the public face");
+        String face = document.substring(document.indexOf("public final class NightLights {"));
+        Set<String> wanted = new TreeSet<>();
+        Matcher line = Pattern.compile("    public (int|boolean) (\\w+)\\(([^)]*)\\);").matcher(face.substring(0, face.indexOf("\n}\n")));
+        while (line.find()) {
+            wanted.add(line.group(1) + " " + line.group(2) + "(" + line.group(3).replaceAll(" \\w+(?=,|$)", "").replace(" ", "") + ")");
+        }
+        Set<String> had = new TreeSet<>();
+        for (Method m : NightLights.class.getDeclaredMethods()) {
+            if (Modifier.isPublic(m.getModifiers())) {
+                C.due(m.getName() + " belongs to an object", Modifier.isStatic(m.getModifiers()), false);
+                had.add(m.getReturnType() + " " + m.getName() + Arrays.stream(m.getParameterTypes()).map(Class::getName)
+                        .collect(Collectors.joining(",", "(", ")")));
+            }
+        }
+        C.due("49 methods", wanted.size(), 49);
+        C.due("the methods " + wanted + ", found " + had, had.equals(wanted), true);
+        C.due("NONE", NightLights.NONE, -1);
+        Class<?>[] parameters = NightLights.class.getDeclaredConstructors()[0].getParameterTypes();
+        C.due("what the constructor takes", parameters.length, 0);
+    }
+
+    /** From a method's first line to the brace that closes it, both indented alike. */
+    private static void lengths(String source) {
+        C.part("rule 11: some sixty lines");
+        String[] lines = source.split("\n");
+        for (int i = 0; i < lines.length; i++) {
+            if (lines[i].matches("    (    )?[^ ].*\\) \\{")) {
+                String closing = lines[i].replaceAll("[^ ].*", "") + "}";
+                int end = i;
+                while (end < lines.length && !lines[end].equals(closing)) {
+                    end++;
+                }
+                C.due(lines[i].trim() + " has " + (end - i + 1) + " lines, which are short", end - i < 60, true);
+            }
+        }
     }
 
     private static void names() {
